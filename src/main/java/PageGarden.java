@@ -14,6 +14,7 @@ public final class PageGarden {
     private static final int KEYS = 100;
     private static final int GREATEST_VALUE = 999;
     private static final int ALL_STEPS = 3;
+    private static final int ABOVE_ALL_COUNTS = 2147483647;
     private static final int SAVED_STATES = 4;
     private static final int TEXT_BYTES = 150;
     private static final int GREATEST_BYTE = 127;
@@ -431,7 +432,7 @@ public final class PageGarden {
         }
 
         boolean isFresh(int bed) {
-            return cell(fresh, bed) == 1;
+            return bed >= 0 && bed < fresh.length && fresh[bed] == 1;
         }
 
         int part(int bed, int what, int needed) {
@@ -815,7 +816,7 @@ public final class PageGarden {
 
         /** The needed count, as if the given reader was closed. */
         int neededCountBut(int closed) {
-            int least = Integer.MAX_VALUE;
+            int least = ABOVE_ALL_COUNTS;
             for (int root = 0; root < ROOTS; root++) {
                 if (rootWholes[root] == 1) {
                     least = Math.min(least, rootCounts[root]);

@@ -36,6 +36,9 @@ public final class CommandsTest {
         fault("begi", 0);
         fault(" begi", 1);
         fault("begins;", 0);
+        fault("begina;", 0);
+        fault("beginz;", 0);
+        fault("xegin;", 0);
         fault("b;", 0);
         fault("Begin;", 0);
         fault("beGin;", 0);
@@ -95,6 +98,17 @@ public final class CommandsTest {
         Check.due("get(7)", x.get(7), 0);
     }
 
+    private static void aFaultIsForgotten() {
+        PageGarden x = new PageGarden();
+        Check.due("a fault in a number", Check.run(x, "put 1 x;"), -16);
+        Check.due("a fault in the last command alone", Check.run(x, "open;begin;drop"), -25);
+        Check.due("nothing of it was carried out", x.whole(7) + x.whole(8), 0);
+        Check.due("a text without a fault behind them", Check.run(x, "begin;put 1 2;"), 2);
+        Check.due("drafted(1)", x.drafted(1), 2);
+        Check.due("a last command is carried out once", Check.run(x, "open;"), 1);
+        Check.due("open readers", x.whole(7), 1);
+    }
+
     private static void everyCommand() {
         PageGarden x = new PageGarden();
         String text = "begin;put 1 10;put 2 999;drop 1;commit 3;open;begin;put 2 5;abort;open;close 0;";
@@ -140,6 +154,7 @@ public final class CommandsTest {
         type();
         faults();
         textsWithoutAFault();
+        aFaultIsForgotten();
         everyCommand();
         commandsThatAreRefused();
         aFullText();

@@ -153,6 +153,9 @@ public final class DraftsTest {
         Check.committed(x, 5);
         Check.due("a bed that was freed anew is young again", x.bed(0, 3), 18);
         Check.due("an older one is dug before lower ones", x.nextBed(), 4);
+        Check.committed(x, 5);
+        Check.due("also if these can be dug too", x.bed(0, 4), 1);
+        Check.due("an older one is dug before lower ones", x.nextBed(), 6);
         Check.due("the wild bed is still there", x.bed(31, 0), 0);
     }
 
@@ -274,6 +277,22 @@ public final class DraftsTest {
         Check.due("the key", z.get(3), 3);
     }
 
+    private static void aLeafInBedZero() {
+        PageGarden x = withTwoRoots();
+        x.commit(1);
+        x.begin();
+        x.put(3, 3);
+        x.put(4, 4);
+        Check.bed("freed beds that nobody needs are dug first", x, 1, 1, 1, 1, NONE, 0, 1);
+        Check.bed("freed beds that nobody needs are dug first", x, 2, 1, 0, 4, NONE, 0, 1);
+        x.put(5, 5);
+        Check.bed("the new leaf comes into the lowest wild bed", x, 0, 1, 0, 2, NONE, 0, 1);
+        Check.due("drafted(4)", x.drafted(4), 4);
+        x.commit(3);
+        Check.entry("it is the second leaf", x, 3, 4, 4, 0, 0);
+        Check.entry("it is the second leaf", x, 4, 5, 5, 0, 1);
+    }
+
     private static void commitThatIsRefused() {
         PageGarden x = new PageGarden();
         Check.badState("commit without a draft", x, () -> x.commit(3));
@@ -308,9 +327,11 @@ public final class DraftsTest {
         x.remove(1);
         Check.due("a bed that was dropped is not counted", x.abort(), 1);
         PageGarden y = withTwoRoots();
+        Check.due("bed 0 and wild beds were dug", y.nextBed(), 6);
         Check.due("abort where a freed bed was dug", y.abort(), 2);
         Check.bed("it is wild", y, 0, 0, NONE, NONE, NONE, 0, 0);
         Check.due("nothing is lost by a commit", y.whole(12), 0);
+        Check.due("it is the lowest wild bed now", y.nextBed(), 0);
     }
 
     public static void main(String[] args) {
@@ -327,6 +348,7 @@ public final class DraftsTest {
         removeDropsAnOldLeafWithoutACopy();
         wholeCommit();
         lostDrafts();
+        aLeafInBedZero();
         commitThatIsRefused();
         abort();
         Check.end("DraftsTest");

@@ -155,6 +155,31 @@ public final class UndoTest {
         Check.due("root 0 is whole again", x.root(0, 2), 1);
     }
 
+    private static void undoRestoresDirectories() {
+        PageGarden x = new PageGarden();
+        x.begin();
+        for (int key = 10; key < 60; key += 10) {
+            x.put(key, key);
+        }
+        x.put(11, 11);
+        x.put(12, 12);
+        Check.due("a leaf between the two", x.bed(1, 2), 3);
+        Check.due("undo() of the split", x.undo(), 3);
+        Check.due("undo() of the put", x.undo(), 2);
+        Check.due("drafted(40)", x.drafted(40), 40);
+        Check.due("drafted(12)", x.drafted(12), PageGarden.NONE);
+        x.put(11, 11);
+        x.undo();
+        Check.due("leaves", x.bed(1, 2), 2);
+        x.remove(40);
+        x.remove(50);
+        Check.due("one leaf is left", x.bed(1, 2), 1);
+        x.undo();
+        x.undo();
+        Check.due("drafted(50)", x.drafted(50), 50);
+        Check.due("digest()", x.digest(), digestOf(x, 2));
+    }
+
     private static void digest() {
         PageGarden x = new PageGarden();
         Check.due("of a new object", x.digest(), digestOf(x, 0));
@@ -175,6 +200,7 @@ public final class UndoTest {
         whatChangesNothingIsSavedToo();
         whatIsNotUndoable();
         undoRestoresPages();
+        undoRestoresDirectories();
         digest();
         Check.end("UndoTest");
     }
