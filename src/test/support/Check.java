@@ -5,6 +5,16 @@ final class Check {
         long answer();
     }
 
+    /** Makes the garden that a call of a range is put to; each call gets its own. */
+    interface Maker {
+        PageGarden made();
+    }
+
+    /** A call with one number. */
+    interface Numbered {
+        long answer(PageGarden garden, int number);
+    }
+
     private static int wrong = 0;
 
     private Check() {
@@ -51,6 +61,29 @@ final class Check {
         refused(what, garden, IllegalStateException.class, call);
     }
 
+    /** The call ends normally, with this answer. */
+    static void answer(String what, long want, Call call) {
+        same(what, answerOf(call), Long.toString(want));
+    }
+
+    /**
+     * The numbers from least to greatest are answered, and none else: what is due is told for the least one
+     * and the one behind it, and for the last but one and the greatest one.
+     */
+    static void range(String what, Class<?> outside, int least, int greatest, Maker maker, Numbered call,
+            long... want) {
+        int[] inside = {least, least + 1, greatest - 1, greatest};
+        for (int at = 0; at < inside.length; at++) {
+            int number = inside[at];
+            PageGarden garden = maker.made();
+            answer(what + " of " + number, want[at], () -> call.answer(garden, number));
+        }
+        for (int number : new int[] {least - 1, greatest + 1, Integer.MIN_VALUE, Integer.MAX_VALUE}) {
+            PageGarden garden = maker.made();
+            refused(what + " of " + number, garden, outside, () -> call.answer(garden, number));
+        }
+    }
+
     /** The answers of whole(), from number 0 on. */
     static void whole(String where, PageGarden garden, int... want) {
         for (int what = 0; what < want.length; what++) {
@@ -94,6 +127,33 @@ final class Check {
         garden.clearCommands();
         type(garden, text);
         return garden.runCommands();
+    }
+
+    /** The keys of the current root, each as key@bed/place. */
+    static String entries(PageGarden garden) {
+        StringBuilder row = new StringBuilder();
+        int count = garden.whole(5);
+        for (int rank = 0; rank < count; rank++) {
+            row.append(rank == 0 ? "" : " ").append(garden.entry(rank, 0)).append('@').append(garden.entry(rank, 2))
+                    .append('/').append(garden.entry(rank, 3));
+        }
+        return row.toString();
+    }
+
+    /** The keys of the current root, leaf by leaf. */
+    static String leaves(PageGarden garden) {
+        StringBuilder row = new StringBuilder();
+        int count = garden.whole(5);
+        for (int rank = 0; rank < count; rank++) {
+            boolean isFirst = garden.entry(rank, 3) == 0;
+            row.append(rank == 0 ? "" : isFirst ? " | " : " ").append(garden.entry(rank, 0));
+        }
+        return row.toString();
+    }
+
+    /** The beds that can be dug one behind the other. */
+    static int beds(PageGarden garden) {
+        return garden.whole(0) + garden.whole(3);
     }
 
     /** Begins a draft, puts each key with itself as its value, and commits it whole. */
